@@ -390,6 +390,11 @@ public final class PromiseTest {
         due("15 equal plans(0)", equal.plans(0), 4);
         due("15 equal plans(1)", equal.plans(1), 2);
         due("15 equal plans(11)", equal.plans(11), 2);
+        equal.set(0, 12);
+        due("15 open, equal plans(0)", equal.plans(0), 2);
+        due("15 open, equal plans(1)", equal.plans(1), 2);
+        due("15 open, equal plans(10)", equal.plans(10), 1);
+        due("15 open, equal plans(11)", equal.plans(11), 2);
         BrassWays same = valves(0, 0, 0);
         for (int place = 0; place < 12; place++) {
             same.note(12);
