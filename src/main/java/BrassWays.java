@@ -174,7 +174,7 @@ public final class BrassWays {
     }
 
     public long plans(int what) {
-        if (what < 0 || what > 1 && what < 10 || what >= 10 + PLACES) {
+        if (what < 0 || (what > 1 && what < 10) || what >= 10 + PLACES) {
             return OUTSIDE;
         }
         planner.workOut(now);
@@ -338,14 +338,15 @@ public final class BrassWays {
 
     private static int valveDrop(int setting, int[] lengths, int loss) {
         int drop = 0;
+        int pressed = 0;
         for (int v = 0; v < VALVES; v++) {
             if ((setting >> v & 1) == 1) {
-                drop += lengths[v];
+                // Each valve more makes a pair with every one that is pressed already.
+                drop += lengths[v] - loss * pressed;
+                pressed++;
             }
         }
-        int pressed = Integer.bitCount(setting);
-        int pairs = pressed * (pressed - 1) / 2;
-        return drop - loss * pairs;
+        return drop;
     }
 
     /** All that an image keeps: the horn, its rules and the part. */
