@@ -2,8 +2,10 @@ import java.util.ArrayList;
 import java.util.List;
 import java.util.Random;
 
-// Runs of calls drawn from a fixed seed, each answer held against a slow model that is
-// written from the document's words alone and tells plans by trying all of them.
+// Runs of calls drawn from a fixed seed, each answer held against a slow model. It tries all
+// plans where there are up to MOST_TRIED; where there are more, it goes through the part
+// forward (the program goes backward), so ties there rest on a like method, not on trying all.
+// Program and model are of one hand: a misread word of the document may stand in both.
 public final class ModelTest {
     private static final int RUNS = 400, CALLS = 512, MOST_TRIED = 20000;
     private static int wrong = 0;
